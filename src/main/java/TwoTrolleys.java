@@ -5,12 +5,12 @@ import java.util.NoSuchElementException;
 public final class TwoTrolleys {
     public static final int NONE = -1;
 
-    /** Answers of calls for which NONE might be a true answer. */
-    private static final int NO_DEGREES = -1000;
+    /** What heat() and spare() answer in the place of NONE, which might be a true answer there. */
+    private static final int FAR_BELOW = -1000;
+    /** What cold() and on() answer where they found nothing. */
     private static final int NOWHERE = -2;
 
     private static final int TAPE_ROOM = 900;
-    private static final int FEED_WORDS = 5;
     private static final int FEED_BYTES = 20;
     private static final int MOST_ROWS = 40;
     private static final int MOST_KINDS = 4;
@@ -123,9 +123,8 @@ public final class TwoTrolleys {
     private static final int NOTE = 100;
     private static final int MOST_CHANGE = 199;
 
-    private final byte[] tape = new byte[TAPE_ROOM];
+    private final Teller teller = new Teller();
     private int tapeLength;
-    private final Teller teller = new Teller(tape);
     private Flight current = new Flight();
     /** A text is told into this one, so that a FAULT leaves the FLIGHT as it was. */
     private Flight draft = new Flight();
@@ -151,11 +150,11 @@ public final class TwoTrolleys {
         if (tapeLength + FEED_BYTES > TAPE_ROOM) {
             return NONE;
         }
-        feedOne(a, tapeLength);
-        feedOne(b, tapeLength + 4);
-        feedOne(c, tapeLength + 8);
-        feedOne(d, tapeLength + 12);
-        feedOne(e, tapeLength + 16);
+        teller.write(tapeLength, a);
+        teller.write(tapeLength + 4, b);
+        teller.write(tapeLength + 8, c);
+        teller.write(tapeLength + 12, d);
+        teller.write(tapeLength + 16, e);
         tapeLength += FEED_BYTES;
         return tapeLength;
     }
@@ -297,12 +296,10 @@ public final class TwoTrolleys {
 
     public int heat(int kind, int minute) {
         if (!isKind(kind)) {
-            refuse(NONE_SUCH);
-            return NO_DEGREES;
+            return refuseFarBelow(NONE_SUCH);
         }
         if (!isMinute(minute)) {
-            refuse(BAD_NUMBER);
-            return NO_DEGREES;
+            return refuseFarBelow(BAD_NUMBER);
         }
         return accept(current.degrees(kind, minute));
     }
@@ -356,9 +353,12 @@ public final class TwoTrolleys {
             return refuse(NONE_SUCH);
         }
         int best = 0;
+        int least = current.secondsMeetingAt(0);
         for (int x = 1; x <= current.rows(); x++) {
-            if (current.secondsMeetingAt(x) < current.secondsMeetingAt(best)) {
+            int seconds = current.secondsMeetingAt(x);
+            if (seconds < least) {
                 best = x;
+                least = seconds;
             }
         }
         return accept(best);
@@ -376,9 +376,12 @@ public final class TwoTrolleys {
             return refuse(NONE_SUCH);
         }
         int best = 0;
+        int least = current.lackingMeetingAt(0);
         for (int x = 1; x <= current.rows(); x++) {
-            if (current.lackingMeetingAt(x) < current.lackingMeetingAt(best)) {
+            int lacks = current.lackingMeetingAt(x);
+            if (lacks < least) {
                 best = x;
+                least = lacks;
             }
         }
         return accept(best);
@@ -441,15 +444,10 @@ public final class TwoTrolleys {
 
     public int spare(int kind) {
         if (!isKind(kind)) {
-            refuse(NONE_SUCH);
-            return NO_DEGREES;
+            return refuseFarBelow(NONE_SUCH);
         }
         int trays = current.formerLoad(kind, true);
-        if (trays == NONE) {
-            refuse(THERE_IS_NONE);
-            return NO_DEGREES;
-        }
-        return accept(current.loadOfKind(kind) - trays);
+        return trays == NONE ? refuseFarBelow(THERE_IS_NONE) : accept(current.loadOfKind(kind) - trays);
     }
 
     public int unloaded() {
@@ -596,14 +594,6 @@ public final class TwoTrolleys {
 
     // ---- what the calls share
 
-    private void feedOne(int number, int from) {
-        for (int i = 0; i < 4; i++) {
-            if (from >= 0 && from + i < TAPE_ROOM) {
-                tape[from + i] = (byte) (number >> (24 - 8 * i));
-            }
-        }
-    }
-
     private int accept(int answer) {
         latestTrouble = NO_TROUBLE;
         return answer;
@@ -612,6 +602,11 @@ public final class TwoTrolleys {
     private int refuse(int trouble) {
         latestTrouble = trouble;
         return NONE;
+    }
+
+    private int refuseFarBelow(int trouble) {
+        latestTrouble = trouble;
+        return FAR_BELOW;
     }
 
     private boolean grant() {
@@ -652,7 +647,7 @@ public final class TwoTrolleys {
         return many == 0 || many > 0 && isKind(kind);
     }
 
-    /** TOKENS of THE TAPE from the left, one at a time, and the first FAULT that is met. */
+    /** THE TAPE, its TOKENS from the left, one at a time, and the first FAULT that is met. */
     private static final class Tokens {
         private static final int AT_END = 0;
         private static final int WORD = 1;
@@ -660,7 +655,7 @@ public final class TwoTrolleys {
         private static final int SIGN = 3;
         private static final int UNKNOWN = 4;
 
-        private final byte[] bytes;
+        private final byte[] bytes = new byte[TAPE_ROOM];
         private int end;
         private int from;
         private int to;
@@ -675,12 +670,17 @@ public final class TwoTrolleys {
         private final int[] nameNumbers = new int[MOST_NAMES];
         private int nameCount;
 
-        Tokens(byte[] bytes) {
-            this.bytes = bytes;
+        /** Four bytes of THE TAPE, the highest first. */
+        void write(int at, int number) {
+            for (int i = 0; i < 4; i++) {
+                if (at + i >= 0 && at + i < TAPE_ROOM) {
+                    bytes[at + i] = (byte) (number >> (24 - 8 * i));
+                }
+            }
         }
 
         void begin(int length) {
-            end = Math.min(length, bytes.length);
+            end = Math.min(length, TAPE_ROOM);
             to = 0;
             fault = 0;
             place = NONE;
@@ -868,10 +868,10 @@ public final class TwoTrolleys {
 
     /** Tells a FLIGHT by its text, LINE by LINE. */
     private static final class Teller {
-        private final Tokens tokens;
+        private final Tokens tokens = new Tokens();
 
-        Teller(byte[] bytes) {
-            tokens = new Tokens(bytes);
+        void write(int at, int number) {
+            tokens.write(at, number);
         }
 
         int faultPlace() {
@@ -1089,9 +1089,12 @@ public final class TwoTrolleys {
 
         /** Tells a column of the LINE that is open, behind those that are closed. */
         void put(int sort, int column, int value) {
-            int cell = cellOf(sort, count(sort), column);
-            if (cell != NONE) {
-                told[cell] = value;
+            if (sort < 0 || sort >= SORTS || column < 0 || column >= COLUMNS) {
+                return;
+            }
+            int line = counts[sort];
+            if (line >= 0 && line < MOST_LINES) {
+                told[(sort * MOST_LINES + line) * COLUMNS + column] = value;
             }
         }
 
@@ -1101,16 +1104,12 @@ public final class TwoTrolleys {
             }
         }
 
+        /** 0 for what isn't told: a ROW without a block has no seats and no weights. */
         int get(int sort, int line, int column) {
-            int cell = cellOf(sort, line, column);
-            return cell == NONE ? 0 : told[cell];
-        }
-
-        private static int cellOf(int sort, int line, int column) {
             if (sort < 0 || sort >= SORTS || line < 0 || line >= MOST_LINES || column < 0 || column >= COLUMNS) {
-                return NONE;
+                return 0;
             }
-            return (sort * MOST_LINES + line) * COLUMNS + column;
+            return told[(sort * MOST_LINES + line) * COLUMNS + column];
         }
 
         void addLiking(int kind, int weight) {
@@ -1579,6 +1578,7 @@ public final class TwoTrolleys {
         private static final int MOST_STATES = 7 * 7 * 7 * 7;
         /** Above any drawer's eighths: a drawer count and the eighths in the last one make one number. */
         private static final int DRAWER = 64;
+        private static final int ABOVE_ALL = 1000000;
 
         private final int[] rooms = new int[MOST_DRAWERS];
         private int count;
@@ -1661,7 +1661,7 @@ public final class TwoTrolleys {
         }
 
         private int bestFilling(Flight flight, int state, int holds) {
-            int least = Integer.MAX_VALUE;
+            int least = ABOVE_ALL;
             int stride = 1;
             for (int kind = 0; kind < MOST_KINDS; kind++) {
                 int many = state / stride % (wanted[kind] + 1);
@@ -1839,11 +1839,14 @@ public final class TwoTrolleys {
             Arrays.fill(waysFor, 0);
             waysFor[0] = 1;
             for (int coin = 0; coin < COIN_SORTS; coin++) {
-                // From the greatest part down, so that the lesser ones are still without this coin.
-                for (int part = sum; part > 0; part--) {
-                    for (int many = most(coin, part); many > 0; many--) {
-                        waysFor[part] += waysFor[part - many * COINS[coin]];
-                    }
+                int value = COINS[coin];
+                for (int part = value; part <= sum; part++) {
+                    waysFor[part] += waysFor[part - value];
+                }
+                // Those were the ways with any number of this coin; the ones with more than are there go again.
+                int tooMuch = value * (stock[coin] + 1);
+                for (int part = sum; part >= tooMuch; part--) {
+                    waysFor[part] -= waysFor[part - tooMuch];
                 }
             }
             return waysFor[sum];
