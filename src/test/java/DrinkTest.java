@@ -13,6 +13,7 @@ public final class DrinkTest {
         led();
         size();
         trouble();
+        troubleGoes();
         Check.end("DrinkTest");
     }
 
@@ -241,5 +242,59 @@ public final class DrinkTest {
         x.all();
         Check.due("where() behind another call", x.where(), -1);
         Check.due("fault() yet", x.fault(), 1);
+    }
+
+    private static void cleared(TwoTrolleys x, String call, long answer) {
+        Check.due("trouble() behind " + call + ", which answered " + answer, x.trouble(), 0);
+        x.given(3);
+        Check.due("trouble() behind given(3)", x.trouble(), 2);
+    }
+
+    /** Each call that may be refused sets TROUBLE to 0 if it wasn't. */
+    private static void troubleGoes() {
+        TwoTrolleys x = Check.flight(DRINKS + ";load f c many 5;block 1 to 4 seats 1 likes c 1;named n row 1 eats c;"
+                + "past at 0 from 1 to 4;took c 1 of 2");
+        cleared(x, "flight", 0);
+        cleared(x, "start(3)", x.start(3) ? 1 : 0);
+        cleared(x, "mark()", x.mark());
+        cleared(x, "step()", x.step());
+        cleared(x, "finish()", x.finish());
+        cleared(x, "sits(1)", x.sits(1));
+        cleared(x, "all()", x.all());
+        cleared(x, "likes(1, 0)", x.likes(1, 0));
+        cleared(x, "loaded(0, 0)", x.loaded(0, 0));
+        cleared(x, "fitsIn(0)", x.fitsIn(0));
+        cleared(x, "seconds(0)", x.seconds(0));
+        cleared(x, "left(0, 0)", x.left(0, 0));
+        cleared(x, "served(1, 0)", x.served(1, 0));
+        cleared(x, "trays(1, 0)", x.trays(1, 0));
+        cleared(x, "got(0)", x.got(0));
+        for (int what = 0; what <= 5; what++) {
+            cleared(x, "sum(" + what + ")", x.sum(what));
+        }
+        cleared(x, "heat(0, 0)", x.heat(0, 0));
+        cleared(x, "cold(0, 0)", x.cold(0, 0));
+        cleared(x, "meets(0)", x.meets(0));
+        cleared(x, "soonest()", x.soonest());
+        cleared(x, "lacking(0)", x.lacking(0));
+        cleared(x, "fairest()", x.fairest());
+        cleared(x, "met()", x.met());
+        cleared(x, "out(1, 0, 0)", x.out(1, 0, 0));
+        cleared(x, "ways(1)", x.ways(1));
+        cleared(x, "enough(1, 0, 0)", x.enough(1, 0, 0));
+        cleared(x, "load(0, true)", x.load(0, true));
+        cleared(x, "spare(0)", x.spare(0));
+        cleared(x, "unloaded()", x.unloaded());
+        cleared(x, "waits(0)", x.waits(0));
+        cleared(x, "on(0, 0)", x.on(0, 0));
+        cleared(x, "on(0, 99999)", x.on(0, 99999));
+        cleared(x, "clear(0)", x.clear(0));
+        cleared(x, "room(0, 0)", x.room(0, 0));
+        cleared(x, "fewest(0, 0, 0, 0, 0)", x.fewest(0, 0, 0, 0, 0));
+        cleared(x, "till(1, 9)", x.till(1, 9) ? 1 : 0);
+        cleared(x, "sell(0, 5)", x.sell(0, 5));
+        cleared(x, "given(1)", x.given(1));
+        cleared(x, "change(1)", x.change(1));
+        cleared(x, "back(0)", x.back(0) ? 1 : 0);
     }
 }

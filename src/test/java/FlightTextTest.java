@@ -17,6 +17,7 @@ public final class FlightTextTest {
         many();
         lacks();
         leftmost();
+        anew();
         Check.end("FlightTextTest");
     }
 
@@ -120,6 +121,11 @@ public final class FlightTextTest {
         Check.fault("cabin", 1, 5);
         Check.fault("cabin ", 1, 6);
         Check.fault("cabin row 3", 1, 6);
+        Check.fault("cabin bows 3", 1, 6);
+        Check.fault("cabin rowz 3", 1, 6);
+        Check.fault("cabin walk 3", 1, 6);
+        Check.fault("habin rows 3", 1, 0);
+        Check.fault("cabim rows 3", 1, 0);
         Check.fault("cabin rows x", 1, 11);
         Check.fault("cabin rows ,", 1, 11);
         Check.fault("cabin rows 2 serve 1", 1, 13);
@@ -152,6 +158,8 @@ public final class FlightTextTest {
         Check.fault("trolley t frontx", 1, 10);
         Check.fine("cabin rows2walk0serve1;heat least0cools0;kind c shape1hot1;trolley t front drawers1holds8");
         Check.fine("  " + Check.BASE + "   ");
+        Check.fine("gap1;gap2 ;gap40" + TAIL);
+        Check.fine("kind aabcdefg shape 1 hot 1;kind babcdefg shape 1 hot 1;kind aabcdefh shape 1 hot 1" + TAIL);
         Check.fine("kind abcdefgh shape 001 hot 099" + TAIL);
         Check.fine("kind front shape 1 hot 1;kind back shape 1 hot 1;kind to shape 1 hot 1;trolley back back drawers 1 holds 8"
                 .replace("trolley back", "trolley rows") + ";cabin rows 2 walk 0 serve 1;heat least 0 cools 0"
@@ -311,5 +319,28 @@ public final class FlightTextTest {
         Check.fault(K + "block 2 to 1 seats 0", 4, 32);
         Check.fault("took x 1000", 2, 5);
         Check.fault("batch abcdefghi", 1, 6);
+    }
+
+    /** What an object was told before leaves no trace, whether it was a FLIGHT or not. */
+    private static void anew() {
+        TwoTrolleys x = new TwoTrolleys();
+        for (int i = 0; i < 5; i++) {
+            Check.due(x, "a full text", Check.tell(x, Check.BASE + ";load f c many 9;block 1 to 4 seats 9 likes v 1,c 2;"
+                    + "named n row 1 eats c child;belts 0 to 9;gap 1;gap 2;gap 3;drink d price 9"), 2, 0);
+            Check.due("its gaps", x.size(8), 3);
+            Check.due("its loads", x.loaded(0, 0), 9);
+            Check.due("a faulty text", Check.tell(x, Check.BASE + ";gap 1;gap 2;load f v many 3;block 2 to 3 seats 3 likes c 9;?"), -1);
+            Check.due("a bare text", Check.tell(x, "cabin rows 2 walk 0 serve 1;heat least 0 cools 0;kind d shape 1 hot 1;"
+                    + "trolley f front drawers 1 holds 8;block 1 to 1 seats 1 likes d 1;named c row 1 eats d"), 1);
+            Check.due("no gaps", x.size(8), 0);
+            Check.due("no loads", x.loaded(0, 0), 0);
+            Check.due("one seat", x.sits(1), 1);
+            Check.due("one weight", x.likes(1, 0), 1);
+            Check.due("nobody in ROW 2", x.sits(2), 0);
+            Check.due("names are told anew", Check.tell(x, "batch c at 3"), -1);
+            Check.due("the FAULT", x.fault(), 2);
+            Check.due("an empty text", x.flight(0), -1);
+            Check.due("its FAULT", x.fault(), 1);
+        }
     }
 }

@@ -33,13 +33,28 @@ public final class ModelTest {
 
     private ModelTest(RandomFlight f) {
         this.f = f;
-        x = Check.flight(f.text());
+        x = usedObject();
+        Check.due("fault() of " + f.text(), Check.tell(x, f.text()) >= 1, true);
         seedAtFirst = RANDOM.nextInt(65537);
+    }
+
+    /** An object that was told other flights before, so that what they left would be seen. */
+    private static TwoTrolleys usedObject() {
+        TwoTrolleys used = new TwoTrolleys();
+        for (int i = 0; i < 3; i++) {
+            String other = RandomFlight.text(RANDOM);
+            int length = Math.min(900, other.length());
+            Check.tell(used, other.substring(0, RANDOM.nextBoolean() ? length : RANDOM.nextInt(length)));
+            used.finish();
+        }
+        return used;
     }
 
     private void compare() {
         sizes();
         cabin();
+        x.start(RANDOM.nextInt(65537));
+        x.finish();
         x.start(seedAtFirst);
         restart();
         int steps = RANDOM.nextInt(f.rows + 1);
@@ -58,6 +73,11 @@ public final class ModelTest {
         Check.due("back()", x.back(mark), true);
         Check.due("SEED of the MARK", x.size(13), seedThere);
         Check.due("finish() again", x.finish(), rest);
+        runAsItStands();
+        int end = x.mark();
+        x.start(RANDOM.nextInt(65537));
+        x.finish();
+        Check.due("back() to the end", x.back(end), true);
         runAsItStands();
         meeting();
         odds();

@@ -112,6 +112,9 @@ public final class OddsTest {
         Check.due(x, "spare(2)", x.spare(2), -1000, 6);
         Check.due(x, "spare(3)", x.spare(3), -1000, 1);
         Check.due(x, "spare(-1)", x.spare(-1), -1000, 1);
+        TwoTrolleys z = Check.flight(HEAD + "block 1 to 1 seats 5 likes c 1;took v 1 of 1;took w 0 of 1");
+        Check.due("1 of 1", z.load(1, false), 5);
+        Check.due("0 of 1", z.load(2, false), 0);
         TwoTrolleys y = Check.flight(HEAD + "block 1 to 6 seats 9 likes c 1;took v 1 of 54;took v 2 of 53");
         Check.due("54 of 54, upwards not needed", y.load(1, false), 1);
         Check.due("108 by 53, upwards", y.load(1, true), 3);

@@ -145,8 +145,18 @@ public final class PastTest {
         Check.due(x, "fewest(-1, ..)", x.fewest(-1, 25, 0, 0, 0), -1, 1);
         TwoTrolleys y = Check.flight("cabin rows 4 walk 10 serve 20;heat least 0 cools 0;kind a shape 7 hot 1;"
                 + "kind b shape 5 hot 1;kind c shape 3 hot 1;kind d shape 2 hot 1;trolley f front drawers 1 holds 17");
+        Check.due(y, "25 with the last KIND", y.fewest(0, 8, 8, 8, 1), -1, 3);
         Check.due(y, "six of each", y.fewest(0, 6, 6, 6, 6), 6, 0);
         Check.due(y, "six of each but one", y.fewest(0, 6, 6, 6, 5), 6, 0);
+        StringBuilder kinds = new StringBuilder("cabin rows 4 walk 10 serve 20;heat least 0 cools 0;trolley f front drawers 1 holds 8");
+        for (int many = 1; many <= 4; many++) {
+            kinds.append(";kind k").append((char) ('a' + many)).append(" shape 8 hot 1");
+            TwoTrolleys z = Check.flight(kinds.toString());
+            Check.due(z, "KIND 0 of " + many, z.fewest(0, 1, 0, 0, 0), 1, 0);
+            Check.due(z, "KIND 1 of " + many, z.fewest(0, 0, 1, 0, 0), many > 1 ? 1 : -1, many > 1 ? 0 : 2);
+            Check.due(z, "KIND 2 of " + many, z.fewest(0, 0, 0, 1, 0), many > 2 ? 1 : -1, many > 2 ? 0 : 2);
+            Check.due(z, "KIND 3 of " + many, z.fewest(0, 0, 0, 0, 1), many > 3 ? 1 : -1, many > 3 ? 0 : 2);
+        }
     }
 
     /** Against all ways to put few trays into drawers. */
