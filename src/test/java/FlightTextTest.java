@@ -15,6 +15,7 @@ public final class FlightTextTest {
         again();
         bounds();
         many();
+        allNames();
         lacks();
         leftmost();
         anew();
@@ -293,6 +294,21 @@ public final class FlightTextTest {
         String word = line.substring(0, line.indexOf(' '));
         Check.fault(text + ";" + word, 5, place);
         Check.fault(text + ";" + word + " ?", 5, place);
+    }
+
+    /** As many names as there can be: four KINDS, two trolleys, six named ones, four drinks. */
+    private static void allNames() {
+        StringBuilder text = new StringBuilder("cabin rows 2 walk 0 serve 1;heat least 0 cools 0;"
+                + "trolley ta front drawers 1 holds 8;trolley tb back drawers 1 holds 8");
+        for (char c = 'a'; c <= 'd'; c++) {
+            text.append(";drink d").append(c).append(" price 1;kind k").append(c).append(" shape 1 hot 1");
+        }
+        for (char c = 'a'; c <= 'f'; c++) {
+            text.append(";named n").append(c).append(" row 1 eats k").append((char) ('a' + c % 4));
+        }
+        Check.fine(text.toString());
+        Check.fine(text + ";load tb kd many 9;batch kd at 1");
+        Check.fault(text + ";load tb nf many 9", 2, text.length() + 9);
     }
 
     private static void lacks() {
