@@ -160,7 +160,7 @@ public final class FlightTextTest {
         Check.fine("cabin rows2walk0serve1;heat least0cools0;kind c shape1hot1;trolley t front drawers1holds8");
         Check.fine("  " + Check.BASE + "   ");
         Check.fine("gap1;gap2 ;gap40" + TAIL);
-        Check.fine("kind aabcdefg shape 1 hot 1;kind babcdefg shape 1 hot 1;kind aabcdefh shape 1 hot 1" + TAIL);
+        Check.fine("kind aabcdefg shape 1 hot 1;kind babcdefg shape 1 hot 1;kind cabcdefg shape 1 hot 1;drink aabcdefh price 1;gap 1" + TAIL);
         Check.fine("kind abcdefgh shape 001 hot 099" + TAIL);
         Check.fine("kind front shape 1 hot 1;kind back shape 1 hot 1;kind to shape 1 hot 1;trolley back back drawers 1 holds 8"
                 .replace("trolley back", "trolley rows") + ";cabin rows 2 walk 0 serve 1;heat least 0 cools 0"

@@ -17,6 +17,7 @@ public final class RunTest {
         coldTrays();
         refusals();
         marks();
+        fortyRows();
         Check.end("RunTest");
     }
 
@@ -370,5 +371,50 @@ public final class RunTest {
             }
         }
         return state * 31 + x.got(0);
+    }
+
+    /** The longest cabin, served from behind alone and from both ends. */
+    private static void fortyRows() {
+        String head = "cabin rows 40 walk 60 serve 60;heat least 90 cools 0;kind a shape 1 hot 60;"
+                + "trolley b back drawers 14 holds 40;load b a many 99;load b a many 99;load b a many 99;load b a many 99;"
+                + "block 1 to 40 seats 9 likes a 1;named n row 40 eats a;gap 39;past at 0 from 40 to 40";
+        TwoTrolleys x = Check.flight(head);
+        Check.due("all()", x.all(), 360);
+        Check.due("sits(40)", x.sits(40), 9);
+        Check.due("likes(40, 0)", x.likes(40, 0), 1);
+        Check.due("step()", x.step(), 40);
+        Check.due("got(0)", x.got(0), 1);
+        Check.due("trays(40, 0)", x.trays(40, 0), 9);
+        Check.due("sum(0)", x.sum(0), 9);
+        Check.due("sum(3)", x.sum(3), 9);
+        Check.due("waits(0)", x.waits(0), 540);
+        Check.due("finish()", x.finish(), 39);
+        Check.due("sum(0)", x.sum(0), 360);
+        Check.due("seconds(0)", x.seconds(0), 40 * 540 + 39 * 60);
+        Check.due("waits(0) at the end", x.waits(0), 600);
+        Check.due("on(0, 600)", x.on(0, 600), 39);
+        Check.due("clear(0)", x.clear(0), 360);
+        Check.due("room(0, 8)", x.room(0, 8), 0);
+        Check.due("room(0, 9)", x.room(0, 9), 40);
+        Check.due("meets(40)", x.meets(40), 40 * 540 + 39 * 60);
+        Check.due("lacking(0)", x.lacking(0), 0);
+        Check.due("ways(2)", x.ways(2), 1);
+        Check.due("ways(40)", x.ways(40), -1);
+        TwoTrolleys y = Check.flight(head + ";trolley f front drawers 1 holds 8;load f a many 9");
+        Check.due("finish()", y.finish(), 40);
+        Check.due("met()", y.met(), y.size(0) - rowsBy(y, 0));
+        Check.due("the ROWS of both", rowsBy(y, 0) + rowsBy(y, 1), 40);
+        Check.due("lacking(40)", y.lacking(40), 351);
+        Check.due("lacking(0)", y.lacking(0), 0);
+        Check.due("fairest()", y.fairest(), 0);
+        Check.due("soonest()", y.soonest(), 20);
+    }
+
+    private static int rowsBy(TwoTrolleys x, int trolley) {
+        int rows = 0;
+        for (int row = 1; row <= 40; row++) {
+            rows += x.served(row, 0) == trolley ? 1 : 0;
+        }
+        return rows;
     }
 }
