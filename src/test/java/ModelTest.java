@@ -1,12 +1,23 @@
+import java.util.ArrayList;
+import java.util.List;
 import java.util.Random;
 
 /** Flights by chance, each call held against a model that counts second by second and way by way. */
 public final class ModelTest {
     private static final int[] COINS = {1, 2, 5, 10, 20, 50};
     private static final Random RANDOM = new Random(4711);
+    /** An object answers 512 calls. */
+    private static final int MOST_CALLS = 512;
+
+    /** A call that changes the object, kept so that a new object can be brought to the same state. */
+    private interface Deed {
+        long on(TwoTrolleys x);
+    }
 
     private final RandomFlight f;
-    private final TwoTrolleys x;
+    private TwoTrolleys x;
+    private int calls;
+    private final List<Deed> deeds = new ArrayList<>();
     private final int seedAtFirst;
     private int seed;
     private final int[][] left = new int[2][4];
@@ -34,8 +45,38 @@ public final class ModelTest {
     private ModelTest(RandomFlight f) {
         this.f = f;
         x = usedObject();
-        Check.due("fault() of " + f.text(), Check.tell(x, f.text()) >= 1, true);
+        calls = 3 * 47;
+        tellIt();
         seedAtFirst = RANDOM.nextInt(65537);
+    }
+
+    private void tellIt() {
+        Check.due("fault() of " + f.text(), Check.tell(x, f.text()) >= 1, true);
+        calls += 46;
+    }
+
+    /** Says how many calls come next: a new object takes the place of one that would be used up by them. */
+    private void spend(int more) {
+        if (calls + more > MOST_CALLS) {
+            x = new TwoTrolleys();
+            calls = 0;
+            tellIt();
+            for (Deed deed : deeds) {
+                deed.on(x);
+                calls++;
+            }
+        }
+        calls += more;
+    }
+
+    private long act(Deed deed) {
+        spend(1);
+        deeds.add(deed);
+        return deed.on(x);
+    }
+
+    private void startBy(int number) {
+        act(o -> o.start(number) ? 1 : 0);
     }
 
     /** An object that was told other flights before, so that what they left would be seen. */
@@ -53,31 +94,32 @@ public final class ModelTest {
     private void compare() {
         sizes();
         cabin();
-        x.start(RANDOM.nextInt(65537));
-        x.finish();
-        x.start(seedAtFirst);
+        startBy(RANDOM.nextInt(65537));
+        act(o -> o.finish());
+        startBy(seedAtFirst);
         restart();
         int steps = RANDOM.nextInt(f.rows + 1);
         for (int i = 0; i < steps; i++) {
-            Check.due("step() of " + f.text(), x.step(), step());
+            Check.due("step() of " + f.text(), act(o -> o.step()), step());
         }
         runAsItStands();
-        int mark = x.mark();
+        int mark = (int) act(o -> o.mark());
         int rest = f.rows - steps;
-        Check.due("finish()", x.finish(), rest);
+        Check.due("finish()", act(o -> o.finish()), rest);
         int seedThere = seed;
         for (int i = 0; i < rest; i++) {
             step();
         }
         runAsItStands();
-        Check.due("back()", x.back(mark), true);
+        Check.due("back()", act(o -> o.back(mark) ? 1 : 0), 1);
+        spend(1);
         Check.due("SEED of the MARK", x.size(13), seedThere);
-        Check.due("finish() again", x.finish(), rest);
+        Check.due("finish() again", act(o -> o.finish()), rest);
         runAsItStands();
-        int end = x.mark();
-        x.start(RANDOM.nextInt(65537));
-        x.finish();
-        Check.due("back() to the end", x.back(end), true);
+        int end = (int) act(o -> o.mark());
+        startBy(RANDOM.nextInt(65537));
+        act(o -> o.finish());
+        Check.due("back() to the end", act(o -> o.back(end) ? 1 : 0), 1);
         runAsItStands();
         meeting();
         odds();
@@ -88,6 +130,7 @@ public final class ModelTest {
     private void sizes() {
         int[] sizes = {f.rows, f.kinds.size(), f.trolleys.size(), f.loads.size(), f.blocks.size(), f.named.size(),
             f.batches.size(), f.belts.size(), f.gaps.size(), f.pasts.size(), f.tooks.size(), f.drinks.size()};
+        spend(sizes.length);
         for (int what = 0; what < sizes.length; what++) {
             Check.due("size(" + what + ")", x.size(what), sizes[what]);
         }
@@ -144,13 +187,16 @@ public final class ModelTest {
 
     private void cabin() {
         for (int row = 1; row <= f.rows; row++) {
+            spend(1 + f.kinds.size());
             Check.due("sits(" + row + ")", x.sits(row), sits(row));
             for (int kind = 0; kind < f.kinds.size(); kind++) {
                 Check.due("likes(" + row + ", " + kind + ")", x.likes(row, kind), weight(row, kind));
             }
         }
+        spend(1);
         Check.due("all()", x.all(), all());
         for (int trolley = 0; trolley < f.trolleys.size(); trolley++) {
+            spend(1 + f.kinds.size());
             int[] rooms = emptied(trolley);
             int fits = 1;
             for (int kind = 0; kind < f.kinds.size(); kind++) {
@@ -173,6 +219,7 @@ public final class ModelTest {
                 bits += 1 << i;
             }
         }
+        spend(1);
         Check.due("unloaded()", x.unloaded(), bits);
     }
 
@@ -190,6 +237,7 @@ public final class ModelTest {
                     most = Math.max(most, trays);
                 }
             }
+            spend(3);
             Check.due("load(" + kind + ", false)", x.load(kind, false), most < 0 ? -1 : least);
             Check.due("load(" + kind + ", true)", x.load(kind, true), most);
             Check.due("spare(" + kind + ")", x.spare(kind), most < 0 ? -1000 : loaded(0, kind) + loaded(1, kind) - most);
@@ -344,6 +392,7 @@ public final class ModelTest {
         int leds = 0;
         for (int row = 1; row <= f.rows; row++) {
             boolean served = by[row] >= 0;
+            spend(7 + f.kinds.size() + 1);
             for (int what = 0; what < 7; what++) {
                 Check.due("served(" + row + ", " + what + ") of " + f.text(), x.served(row, what), served ? facts[row][what] : -1);
             }
@@ -360,6 +409,7 @@ public final class ModelTest {
                 leds++;
             }
         }
+        spend(1 + sums.length + f.named.size() + 1);
         Check.due("led(" + leds + ") throws", Check.ledThrows(x, leds), true);
         sums[4] = spilt;
         for (int what = 0; what < 6; what++) {
@@ -376,6 +426,7 @@ public final class ModelTest {
 
     private void trolleys() {
         for (int trolley = 0; trolley < f.trolleys.size(); trolley++) {
+            spend(1 + 20 + 1 + 14 + 4);
             Check.due("seconds(" + trolley + ")", x.seconds(trolley), seconds[trolley]);
             for (int i = 0; i < 20; i++) {
                 int s = RANDOM.nextInt(seconds[trolley] + 9);
@@ -403,6 +454,7 @@ public final class ModelTest {
     }
 
     private void pasts() {
+        spend(f.pasts.size());
         for (int i = 0; i < f.pasts.size(); i++) {
             int[] past = f.pasts.get(i);
             int s = past[0] * 60;
@@ -428,11 +480,13 @@ public final class ModelTest {
         int[][] both = new int[41][];
         for (int m = 0; m <= f.rows; m++) {
             both[m] = meetingAt(m);
+            spend(2);
             Check.due("meets(" + m + ")", x.meets(m), both[m][0]);
             Check.due("lacking(" + m + ")", x.lacking(m), both[m][1]);
             soonest = both[m][0] < both[soonest][0] ? m : soonest;
             fairest = both[m][1] < both[fairest][1] ? m : fairest;
         }
+        spend(3);
         Check.due("soonest()", x.soonest(), soonest);
         Check.due("fairest()", x.fairest(), fairest);
         int met = -1;
@@ -479,6 +533,7 @@ public final class ModelTest {
             }
             for (int kind = 0; kind < f.kinds.size(); kind++) {
                 if (people > 10) {
+                    spend(6);
                     Check.due(x, "out()", x.out(row, kind, 0), -1, 3);
                     Check.due(x, "ways()", x.ways(row), -1, 3);
                     Check.due(x, "enough()", x.enough(row, kind, 50), -1, 3);
@@ -491,6 +546,7 @@ public final class ModelTest {
 
     private void oddsOf(int row, int kind) {
         long all = waysOf(1, 0, row, kind, -1);
+        spend(1 + 12 + 1);
         Check.due("ways(" + row + ")", x.ways(row), all);
         int p = RANDOM.nextInt(100);
         int enough = -1;
@@ -521,6 +577,7 @@ public final class ModelTest {
 
     private void heat() {
         for (int kind = 0; kind < f.kinds.size(); kind++) {
+            spend(40);
             for (int i = 0; i < 20; i++) {
                 int minute = RANDOM.nextInt(i < 10 ? 20 : 1000);
                 Check.due("heat(" + kind + ", " + minute + ")", x.heat(kind, minute), heat(kind, minute));
@@ -537,8 +594,10 @@ public final class ModelTest {
         int[] till = new int[6];
         int notes = 0;
         for (int i = 0; i < 6; i++) {
-            till[i] = RANDOM.nextInt(RANDOM.nextInt(4) == 0 ? 100 : 5);
-            x.till(COINS[i], till[i]);
+            int coin = COINS[i];
+            int many = RANDOM.nextInt(RANDOM.nextInt(4) == 0 ? 100 : 5);
+            till[i] = many;
+            act(o -> o.till(coin, many) ? 1 : 0);
         }
         for (int sale = 0; sale < 20 && !f.drinks.isEmpty(); sale++) {
             int drink = RANDOM.nextInt(f.drinks.size());
@@ -548,7 +607,11 @@ public final class ModelTest {
             boolean full = coin < 6 && till[coin] == 99;
             boolean sold = best != null && !full;
             String call = "sell(" + drink + ", " + coin + ") of " + java.util.Arrays.toString(till);
-            Check.due(x, call, x.sell(drink, coin == 6 ? 100 : COINS[coin]), sold ? back : -1, back < 0 ? 5 : sold ? 0 : 6);
+            int value = coin == 6 ? 100 : COINS[coin];
+            Check.due(call, act(o -> o.sell(drink, value)), sold ? back : -1);
+            // Told behind the sale and with no other call between: a new object would have sold last, too.
+            spend(1 + 6 + 2);
+            Check.due("trouble() behind " + call, x.trouble(), back < 0 ? 5 : sold ? 0 : 6);
             for (int i = 0; i < 6 && sold; i++) {
                 Check.due(call + " given(" + COINS[i] + ")", x.given(COINS[i]), best[i]);
                 till[i] += (i == coin ? 1 : 0) - best[i];

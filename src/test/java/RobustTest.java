@@ -28,7 +28,8 @@ public final class RobustTest {
     private static void oneObject() {
         TwoTrolleys x = new TwoTrolleys();
         int calls = 0;
-        while (calls < 512) {
+        // A text and the calls behind it are 50 at most; no object is used for more than 512.
+        while (calls < 512 - 50) {
             if (RANDOM.nextInt(60) == 0 || calls == 0) {
                 String text = text();
                 calls += text.length() / 20 + 2;
