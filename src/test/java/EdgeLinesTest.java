@@ -16,6 +16,8 @@ public final class EdgeLinesTest {
         for (String line : LINES) {
             eachToken(line);
             behind(line);
+            leftOut(line);
+            doubled(line);
         }
         cabinBounds();
         kindBounds();
@@ -109,6 +111,50 @@ public final class EdgeLinesTest {
         Check.fault(told + ",", 1, told.length() + (block ? 1 : 0));
         Check.fault(told + ";", 1, told.length() + 1);
         Check.fault(told + ";gap 0", 4, told.length() + 5);
+    }
+
+    /** Each TOKEN left out in turn: the next one can't stand in its place, or isn't told. */
+    private static void leftOut(String line) {
+        String[] tokens = line.split(" ");
+        for (int out = 0; out < tokens.length; out++) {
+            if (tokens[out].equals("=child")) {
+                continue;
+            }
+            StringBuilder text = new StringBuilder(head(line));
+            int place = 0;
+            for (int i = 0; i < tokens.length; i++) {
+                place = i == out ? text.length() : place;
+                text.append(i == out ? "" : tokens[i].substring(1) + " ");
+            }
+            char sort = tokens[out].charAt(0);
+            char next = out + 1 < tokens.length ? tokens[out + 1].charAt(0) : ';';
+            boolean told = sort == '+';
+            if (told) {
+                // The next WORD is taken for the NAME, so that the one behind it is out of place.
+                place += tokens[out + 1].length();
+            }
+            boolean untold = (sort == 'K' || sort == 'T') && (next == '=' && !tokens[out + 1].equals("=child") || next == 'K');
+            Check.fault(text + ";gap 1", untold ? 2 : 1, place);
+        }
+    }
+
+    /** Each TOKEN told twice: the second one is out of place, or of another sort. */
+    private static void doubled(String line) {
+        String[] tokens = line.split(" ");
+        for (int twice = 0; twice < tokens.length; twice++) {
+            StringBuilder text = new StringBuilder(head(line));
+            int place = 0;
+            for (int i = 0; i < tokens.length; i++) {
+                text.append(tokens[i].substring(1)).append(' ');
+                if (i == twice) {
+                    place = text.length();
+                    text.append(tokens[i].substring(1)).append(' ');
+                }
+            }
+            // A WORD of the LINE where a KIND must stand is a NAME that isn't told; its first WORD is none.
+            boolean untold = twice > 0 && twice + 1 < tokens.length && tokens[twice + 1].charAt(0) == 'K';
+            Check.fault(text.toString(), untold ? 2 : 1, place);
+        }
     }
 
     /** A WHOLE of this LINE out of bounds by one, whatever comes behind it. */
