@@ -525,9 +525,10 @@ public final class EdgeLinesTest {
                 + "trolley tf front drawers 9 holds 9;trolley tb back drawers 9 holds 10;load tf c many 9;load tb c many 9;"
                 + "load tb v many 9;block 1 to 1 seats 2 likes c 1,v 1;block 1 to 4 seats 2 likes c 1,v 2;named n row 1 eats v child;"
                 + "named m row 2 eats v;batch c at 9;batch v at 2;took c 1 of 2;took v 1 of 2;past at 0 from 1 to 4;belts 0 to 1;"
-                + "belts 1 to 2;gap 2;gap 1;drink t price 3";
-        String some = "cabin rows 3 walk 1 serve 1;heat least 1 cools 9;kind c shape 1 hot 9;trolley tb back drawers 1 holds 8;"
-                + "load tb c many 1;block 2 to 2 seats 3 likes c 1;named n row 3 eats c;batch c at 3;took c 1 of 1;past at 1 from 1 to 4";
+                + "belts 2 to 3;gap 2;gap 3;drink t price 3";
+        String some = "cabin rows 3 walk 1 serve 60;heat least 1 cools 9;kind c shape 1 hot 9;trolley tb back drawers 1 holds 8;"
+                + "load tb c many 2;block 2 to 2 seats 3 likes c 1;named n row 3 eats c;batch c at 3;took c 1 of 1;past at 0 from 1 to 4;"
+                + "belts 5 to 6;gap 40";
         String bare = "cabin rows 4 walk 0 serve 60;heat least 0 cools 1;kind v shape 1 hot 1;kind c shape 8 hot 9;trolley tb back drawers 2 holds 8";
         String[] texts = {full, some, bare, full + "?", some + ";kind c", "", bare + ";block 1 to 4 seats 9 likes v 9,c 9;gap 0"};
         for (String first : texts) {

@@ -19,6 +19,7 @@ public final class EdgePastTest {
         firstThatWontGoIn();
         rowByRow();
         clearOfAllTrays();
+        clearOfFourKinds();
         everyDrawer();
         fitsToTheEighth();
         fewestUpTo24();
@@ -279,6 +280,26 @@ public final class EdgePastTest {
         Check.due(x, "room(1, 1)", x.room(1, 1), 4, 0);
         Check.due("trays handed stay so", x.sum(0), 4);
         Check.due("nothing comes back to what is left", x.left(0, 1), 7);
+    }
+
+    /** Four KINDS in each ROW, served from both ends: each tray handed once, and no more. */
+    private static void clearOfFourKinds() {
+        StringBuilder text = new StringBuilder("cabin rows 3 walk 0 serve 9;heat least 0 cools 0;kind a shape 1 hot 1;kind b shape 2 hot 1"
+                + ";kind c shape 4 hot 1;kind d shape 8 hot 1;trolley tf front drawers 1 holds 15;trolley tb back drawers 3 holds 15");
+        for (char kind = 'a'; kind <= 'd'; kind++) {
+            text.append(";load tf ").append(kind).append(" many 9;load tb ").append(kind).append(" many 9");
+        }
+        text.append(";named na row 3 eats a;named nb row 3 eats b;named nc row 3 eats c;named nd row 3 eats d;named ne row 1 eats d;named nf row 2 eats a");
+        TwoTrolleys x = Check.flight(text.toString());
+        x.finish();
+        Check.due("trays", x.sum(0), 6);
+        // 8 | 1 | 1 2 4 8: the first drawer takes 8 1 1 2, the second 4 8.
+        Check.due(x, "clear(1)", x.clear(1), 6, 0);
+        Check.due(x, "room(1, 0)", x.room(1, 0), 3, 0);
+        Check.due(x, "room(1, 1)", x.room(1, 1), 3, 0);
+        Check.due(x, "room(1, 2)", x.room(1, 2), 15, 0);
+        Check.due(x, "clear(0)", x.clear(0), 4, 0);
+        Check.due(x, "room(0, 0)", x.room(0, 0), 3, 0);
     }
 
     private static void everyDrawer() {

@@ -18,6 +18,8 @@ public final class EdgeRunTest {
         named();
         childrenFirst();
         otherTrolley();
+        anotherRun();
+        spiltAnew();
         mostLeft();
         nothingLeft();
         heatDownwards();
@@ -112,6 +114,12 @@ public final class EdgeRunTest {
         x.step();
         Check.due("nothing left, and it draws", x.size(13), next(74));
         Check.due("NOTHING", x.served(2, 4), 1);
+        // By a sum of 1 each remainder is 0, whatever SEED is.
+        TwoTrolleys y = Check.flight(cabin(2, 0, 1) + FRONT + ";load tf a many 9;load tf b many 99;load tf c many 9;block 1 to 2 seats 9 likes c 1");
+        y.start(12345);
+        y.step();
+        Check.due("all nine get it", y.trays(1, 2), 9);
+        Check.due("NO CHOICE", y.served(1, 3), 0);
     }
 
     /** Of like SECONDS the front one goes, one second more or less decides; which is told first is of no matter. */
@@ -323,6 +331,66 @@ public final class EdgeRunTest {
         Check.due("the back one has all", x.left(0, 0), 9);
         Check.due("the front one hasn't", x.left(1, 1), 8);
         Check.due("unloaded(), for a is loaded", x.unloaded(), 0);
+        // Four KINDS, and nothing left on the trolley that serves.
+        TwoTrolleys y = Check.flight(cabin(2, 0, 1) + ";kind d shape 1 hot 1" + FRONT + BACK + ";load tf d many 1;load tb a many 9;load tb d many 9"
+                + ";block 1 to 2 seats 3 likes d 1");
+        y.step();
+        Check.due("one tray", y.served(1, 6), 1);
+        Check.due("NOTHING", y.served(1, 4), 2);
+        Check.due("NO CHOICE", y.served(1, 3), 0);
+        y.step();
+        Check.due("by the back one", y.served(2, 0), 1);
+        Check.due("three of d", y.trays(2, 3), 3);
+        Check.due("left(1, 0)", y.left(1, 0), 9);
+        Check.due("left(1, 3)", y.left(1, 3), 6);
+    }
+
+    /** What a named one got is told of this RUN alone: another draw ahead of it takes its tray. */
+    private static void anotherRun() {
+        TwoTrolleys x = Check.flight(cabin(2, 0, 1) + FRONT + ";load tf a many 1;load tf b many 9;block 1 to 1 seats 1 likes a 1,b 1;named n row 2 eats a");
+        int even = 0;
+        while (next(even) % 2 != 0) {
+            even++;
+        }
+        int odd = 0;
+        while (next(odd) % 2 != 1) {
+            odd++;
+        }
+        for (int times = 0; times < 2; times++) {
+            x.start(odd);
+            x.finish();
+            Check.due("got(0), b was drawn", x.got(0), 1);
+            Check.due("mark()", x.mark(), 2 * times);
+            x.start(even);
+            Check.due(x, "got(0) of a new RUN", x.got(0), -1, 6);
+            x.finish();
+            Check.due("got(0), a was drawn", x.got(0), 0);
+            Check.due("mark()", x.mark(), 2 * times + 1);
+        }
+        for (int mark = 3; mark >= 0; mark--) {
+            x.back(mark);
+            Check.due("got(0) of the MARK " + mark, x.got(0), 1 - mark % 2);
+            Check.due("NOTHING", x.sum(2), mark % 2);
+        }
+    }
+
+    /** SPILT begins at 0 with each RUN, and is what it was with a MARK. */
+    private static void spiltAnew() {
+        TwoTrolleys x = Check.flight(cabin(2, 0, 60) + FRONT + ";load tf a many 99;block 1 to 2 seats 3 likes a 1;belts 1 to 2;belts 2 to 3;belts 5 to 6");
+        x.step();
+        Check.due("SPILT", x.sum(4), 2);
+        x.mark();
+        x.finish();
+        Check.due("SPILT at the end", x.sum(4), 3);
+        x.start(1);
+        Check.due("SPILT of none", x.sum(4), 0);
+        x.step();
+        Check.due("SPILT once more", x.sum(4), 2);
+        x.finish();
+        x.back(0);
+        Check.due("SPILT of the MARK", x.sum(4), 2);
+        x.step();
+        Check.due("SPILT from there", x.sum(4), 3);
     }
 
     /** Of what it has most, of like ones the first KIND. */
