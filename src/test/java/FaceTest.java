@@ -4,6 +4,7 @@ import java.lang.reflect.Method;
 import java.lang.reflect.Modifier;
 import java.nio.file.Files;
 import java.nio.file.Path;
+import java.util.ArrayList;
 import java.util.Arrays;
 import java.util.List;
 import java.util.NoSuchElementException;
@@ -23,6 +24,7 @@ public final class FaceTest {
     public static void main(String[] args) throws Exception {
         methods();
         others();
+        inside();
         rules();
         Check.end("FaceTest");
     }
@@ -73,6 +75,38 @@ public final class FaceTest {
         for (Class<?> inner : TwoTrolleys.class.getDeclaredClasses()) {
             Check.due(inner.getName() + " is static", Modifier.isStatic(inner.getModifiers()), true);
             Check.due(inner.getName() + " is not public", Modifier.isPublic(inner.getModifiers()), false);
+        }
+    }
+
+    /** The classes inside, and the class itself, by rules 1, 3, 5, 6 and 11. */
+    private static void inside() {
+        TreeSet<String> face = new TreeSet<>();
+        for (Method method : TwoTrolleys.class.getMethods()) {
+            face.add(method.getName());
+        }
+        List<Class<?>> classes = new ArrayList<>(Arrays.asList(TwoTrolleys.class.getDeclaredClasses()));
+        for (Class<?> inner : classes) {
+            for (Method method : inner.getDeclaredMethods()) {
+                Check.due(inner + "." + method.getName() + " is a public name", face.contains(method.getName()), false);
+            }
+            Check.due(inner + " holds further classes", inner.getDeclaredClasses().length, 0);
+        }
+        classes.add(TwoTrolleys.class);
+        Check.due("some twelve classes", classes.size() <= 12, true);
+        for (Class<?> one : classes) {
+            int fields = 0;
+            for (Field field : one.getDeclaredFields()) {
+                boolean constant = Modifier.isStatic(field.getModifiers());
+                Check.due(one + "." + field.getName() + ", if static, is final",
+                        !constant || Modifier.isFinal(field.getModifiers()), true);
+                fields += constant ? 0 : 1;
+            }
+            Check.due("some twenty fields in " + one, fields <= 20, true);
+            for (Method method : one.getDeclaredMethods()) {
+                Check.due("seven parameters of " + method, method.getParameterCount() <= 7, true);
+                boolean throwsIt = method.getName().equals("led");
+                Check.due("what " + method + " tells to throw", method.getExceptionTypes().length, throwsIt ? 1 : 0);
+            }
         }
     }
 
